@@ -39,6 +39,7 @@ public final class FlowTest {
             }
             // keep, WHOLE, loop, x; for each round keep, plus, tell, SLOT, WHOLE, NOTHING, the asking, x
             CHECKS.due("STEPS of " + n + " rounds", b.work.ended(3), 4 + 8 * n);
+            CHECKS.due("behind it", b.wholeOf(b.keep(b.whole(n), 0, b.then(loop, b.whole(6)))), 6);
         }
     }
 
@@ -54,6 +55,7 @@ public final class FlowTest {
         CHECKS.due("an ACT that there is not", b.work.run(b.call(59, b.tell(nine)), 9), Builder.NOTHING);
         CHECKS.due("x is done", b.work.out(0), 9);
         CHECKS.due("STEPS", b.work.ended(3), 3);
+        CHECKS.due("behind it", b.wholeOf(b.then(b.call(59, nine), nine)), 9);
         int last = b.work.count(0);
         int ahead = b.call(last + 1, nine);
         CHECKS.due("not yet", b.work.run(ahead, 9), Builder.NOTHING);
@@ -144,5 +146,7 @@ public final class FlowTest {
         CHECKS.due("one FAILURE", b.work.ended(4), 1);
         int inX = b.keep(b.later(b.whole(2)), 0, b.then(b.caught(b.force(b.then(kept, fail)), 0, kept), force));
         CHECKS.due("a FAILURE of 28's part is not the LATER's", b.wholeOf(inX), 2);
+        int noLater = b.keep(b.later(b.whole(3)), 0, b.then(b.caught(b.force(b.whole(0)), 4, kept), force));
+        CHECKS.due("nor is a CAST of 28 itself", b.wholeOf(noLater), 3);
     }
 }

@@ -171,15 +171,31 @@ public final class LimitsTest {
         ended("200 deep", b.work, Builder.SPENT, b.work.ended(2), 200, 0);
     }
 
+    /** Makes and changes much of all there is: each RUN must have the room that the first had. */
+    private static int dearAct(Builder b) {
+        int sixteen = b.whole(16);
+        int row = b.row(sixteen);
+        int kept = b.slot(0);
+        int four = b.later(b.whole(4));
+        int write = b.write(kept, b.whole(15), b.call(b.force(b.slot(0)), four));
+        int copy = b.copy(row, kept, sixteen);
+        int much = copy;
+        for (int i = 0; i < 3; i++) {
+            much = b.then(much, much);
+        }
+        return b.keep(row, 0, b.all(much, much, much, write, kept));
+    }
+
     private static void runs() {
         Builder b = new Builder();
-        int act = b.row(b.whole(16));
+        int act = dearAct(b);
         for (int i = 0; i < 400; i++) {
             if (i == 200) {
                 b.work.clear();
-                b.row(b.whole(16));
+                dearAct(b);
             }
-            CHECKS.due("RUN", b.work.run(act, 2), 2);
+            CHECKS.due("RUN", b.work.run(act, 200), 2);
+            CHECKS.duePlace("RUN", b.work, 15, "4");
         }
         CHECKS.due("a 401st", b.work.run(b.whole(1), 2), SideWork.ROOM);
         CHECKS.due("it changes nothing", b.work.gave(), 16);

@@ -313,6 +313,12 @@ public final class SideWork {
     private static final class Memory {
         private static final int BOXES = 8;
         private static final int LONGEST = 16;
+        /**
+         * So many cells a RUN can need, and so many it can change. A new row takes 2 STEPS at least, as a part
+         * gives its length and so makes nothing itself; a copy does, too, as a part gives a row and so is no
+         * copy itself. All else needs or changes one cell by a STEP at most.
+         */
+        private static final int MOST = (LONGEST + 1) * MOST_STEPS / 2;
 
         private final long[] cells;
         private final int[] changedCells;
@@ -321,9 +327,9 @@ public final class SideWork {
         private int changes;
 
         Memory() {
-            cells = new long[BOXES + (LONGEST + 1) * MOST_STEPS];
-            changedCells = new int[LONGEST * MOST_STEPS];
-            changedFrom = new long[LONGEST * MOST_STEPS];
+            cells = new long[BOXES + MOST];
+            changedCells = new int[MOST];
+            changedFrom = new long[MOST];
             restart();
         }
 
@@ -417,7 +423,8 @@ public final class SideWork {
     /** FRAMES of SLOTS; none is used twice in a RUN, as a LATER may still need it. */
     private static final class Frames {
         private static final int SLOTS = 8;
-        private static final int MOST = MOST_STEPS + 1;
+        /** That of the RUN, and those of 25: each of these begins two ACTS, so they are half of the STEPS at most. */
+        private static final int MOST = 1 + MOST_STEPS / 2;
 
         private final long[] slots;
         private int made;

@@ -56,6 +56,32 @@ final class Builder {
         return whole;
     }
 
+    /** An ACT for each sort of VALUE, by its number; rows have x places, the others have x. */
+    int[] oneOfEachSort(int x) {
+        return new int[] {x, nothing(), row(x), links(x), markedRow(x), link(x), markedLink(x), later(x)};
+    }
+
+    /** An ACT for each FAILURE, by its number, that FAILS so; OWN with the code. */
+    int[] oneOfEachFailure(int ownCode) {
+        int none = nothing();
+        int zero = whole(0);
+        int row = row(zero);
+        int ring = keep(later(force(slot(0))), 0, force(slot(0)));
+        return new int[] {none, held(none), read(row, zero), row(whole(-1)), held(zero), copy(zero, row, zero),
+            divided(zero, zero), fail(whole(ownCode)), ring};
+    }
+
+    /** An ACT that ends the RUN so: SPENT, MUCH, DEEP or LONG. */
+    int endsBy(int ending) {
+        int one = whole(1);
+        switch (ending) {
+            case SPENT: return loop(one, one);
+            case MUCH: return loop(one, caught(fail(one), 0, one));
+            case DEEP: return call(work.count(0), one);
+            default: return row(whole(17));
+        }
+    }
+
     /** Runs it with all the STEPS there can be: the WHOLE that it gave, or else 1,000,000 and its answer's size. */
     int wholeOf(int act) {
         int answer = work.run(act, 200);

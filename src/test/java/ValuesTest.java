@@ -1,312 +1,393 @@
-/** Promises 4, 6 and 7 with the KINDS 0 to 19, and which FAILURE comes first. */
+/** The VALUES, and the KINDS 0 to 19 where they do not FAIL: new things, their places, copies. */
 public final class ValuesTest {
     private static final Checks CHECKS = new Checks("ValuesTest");
     private static final int MIN = Integer.MIN_VALUE, MAX = Integer.MAX_VALUE;
 
     public static void main(String[] args) {
-        plain();
-        arithmetic();
-        wantedWholes();
+        wholes();
+        slots();
+        slotsAreNothingAtFirst();
+        nothing();
+        oneThenTheOther();
+        keeping();
+        sums();
+        products();
+        quotients();
+        wrapping();
+        below();
         sameness();
         newRows();
+        newLinks();
+        linksThatHold();
         reading();
         writing();
-        linksHold();
+        placesForLinks();
+        placesForMarkedLinks();
+        markedLinksAreLinks();
+        holding();
         copying();
-        answersOfTheRun();
+        copyingNone();
+        copyingAll();
         CHECKS.finish();
     }
 
-    private static void fails(String what, Builder b, int act, int failure) {
-        CHECKS.due(what + " FAILS", b.failureOf(act), failure);
-        CHECKS.due(what + " at", b.work.ended(2), failure == 0 ? -1 : act);
-        CHECKS.due(what + " with the code", b.work.ended(1), failure >= Builder.SPENT ? 0 : failure);
-    }
-
-    private static void plain() {
-        Builder b = new Builder();
-        CHECKS.due("WHOLE", b.wholeOf(b.whole(MIN)), MIN);
-        int five = b.whole(5);
-        CHECKS.due("WHOLE 5", b.wholeOf(five), 5);
-        CHECKS.due("NOTHING", b.work.run(b.nothing(), 1), Builder.NOTHING);
-        CHECKS.due("it gave", b.work.gave(), 0);
-        for (int i = 0; i < 8; i++) {
-            CHECKS.due("SLOT " + i, b.work.run(b.slot(i), 1), Builder.NOTHING);
-            CHECKS.due("SLOT kept", b.wholeOf(b.keep(five, i, b.slot(i))), 5);
-        }
-        CHECKS.due("then", b.wholeOf(b.then(five, b.whole(6))), 6);
-        CHECKS.due("SLOTS are new in each RUN", b.work.run(b.slot(3), 1), Builder.NOTHING);
-        CHECKS.due("another SLOT", b.work.run(b.keep(five, 1, b.slot(2)), 9), Builder.NOTHING);
-    }
-
-    private static void arithmetic() {
-        int[][] pairs = {{7, 2}, {-7, 2}, {7, -2}, {-7, -2}, {MAX, 1}, {MIN, -1}, {MAX, MAX}, {0, 5}, {65536, 65536}};
-        for (int[] pair : pairs) {
+    private static void wholes() {
+        CHECKS.sentence("0 the WHOLE a.");
+        for (int n : new int[] {MIN, MIN + 1, -1, 0, 1, 5, MAX}) {
             Builder b = new Builder();
-            int x = b.whole(pair[0]);
-            int y = b.whole(pair[1]);
-            String of = pair[0] + ", " + pair[1];
-            CHECKS.due("5: " + of, b.wholeOf(b.plus(x, y)), pair[0] + pair[1]);
-            CHECKS.due("6: " + of, b.wholeOf(b.times(x, y)), pair[0] * pair[1]);
-            CHECKS.due("7: " + of, b.wholeOf(b.divided(x, y)), pair[0] / pair[1]);
-            CHECKS.due("8: " + of, b.wholeOf(b.below(x, y)), pair[0] < pair[1] ? 1 : 0);
-            CHECKS.due("8: back", b.wholeOf(b.below(y, x)), pair[1] < pair[0] ? 1 : 0);
-            CHECKS.due("8: alike", b.wholeOf(b.below(x, x)), 0);
+            CHECKS.due("run", b.work.run(b.whole(n), 1), Builder.WHOLE);
+            CHECKS.due("gave", b.work.gave(), n);
         }
-        Builder b = new Builder();
-        fails("by 0", b, b.divided(b.whole(3), b.whole(0)), Builder.ARITHMETIC);
-        fails("0 by 0", b, b.divided(b.whole(0), b.whole(0)), Builder.ARITHMETIC);
     }
 
-    private static void wantedWholes() {
+    private static void slots() {
+        CHECKS.sentence("1 what SLOT a holds.");
+        for (int slot = 0; slot < 8; slot++) {
+            Builder b = new Builder();
+            int all = b.slot(slot);
+            for (int i = 0; i < 8; i++) {
+                all = b.keep(b.whole(10 + i), i, all);
+            }
+            CHECKS.due("SLOT " + slot, b.wholeOf(all), 10 + slot);
+        }
+    }
+
+    private static void slotsAreNothingAtFirst() {
+        CHECKS.sentence("A FRAME has SLOTS 0 to 7, all NOTHING at first.");
         Builder b = new Builder();
-        int zero = b.whole(0);
-        int none = b.nothing();
-        int thing = b.link(zero);
-        fails("5 of NOTHING", b, b.plus(none, zero), Builder.NULL);
-        fails("5 of a LINK", b, b.plus(zero, thing), Builder.CAST);
-        fails("5 from the left: NULL", b, b.plus(none, thing), Builder.NULL);
-        fails("5 from the left: CAST", b, b.plus(thing, none), Builder.CAST);
-        fails("6", b, b.times(thing, none), Builder.CAST);
-        fails("7 ahead of 0", b, b.divided(thing, zero), Builder.CAST);
-        fails("7 by NOTHING", b, b.divided(zero, none), Builder.NULL);
-        fails("8", b, b.below(zero, none), Builder.NULL);
-        fails("10", b, b.row(none), Builder.NULL);
-        fails("11", b, b.links(thing), Builder.CAST);
-        fails("12", b, b.markedRow(none), Builder.NULL);
-        fails("20", b, b.fail(none), Builder.NULL);
-        fails("20 of a LINK", b, b.fail(thing), Builder.CAST);
-        fails("23", b, b.choose(none, zero, zero), Builder.NULL);
-        fails("23 of a LINK", b, b.choose(thing, zero, zero), Builder.CAST);
-        fails("24", b, b.loop(none, zero), Builder.NULL);
-        fails("24 of a LINK", b, b.loop(thing, zero), Builder.CAST);
-        fails("26", b, b.tell(none), Builder.NULL);
-        fails("26 of a LINK", b, b.tell(thing), Builder.CAST);
-        int later = b.later(zero);
-        fails("5 of a LATER", b, b.plus(later, zero), Builder.CAST);
-        fails("5 of a ROW", b, b.plus(b.row(zero), zero), Builder.CAST);
+        int five = b.whole(5);
+        for (int slot = 0; slot < 8; slot++) {
+            int read = b.slot(slot);
+            CHECKS.due("SLOT " + slot, b.work.run(read, 1), Builder.NOTHING);
+            CHECKS.due("kept", b.wholeOf(b.keep(five, slot, read)), 5);
+            CHECKS.due("in the next RUN", b.work.run(read, 1), Builder.NOTHING);
+            int called = b.work.run(b.keep(five, slot, b.call(read, five)), 9);
+            CHECKS.due("in a FRAME of 25", called, slot == 0 ? Builder.WHOLE : Builder.NOTHING);
+        }
+    }
+
+    private static void nothing() {
+        CHECKS.sentence("2 NOTHING.");
+        Builder b = new Builder();
+        CHECKS.due("run", b.work.run(b.nothing(), 1), Builder.NOTHING);
+        CHECKS.due("gave", b.work.gave(), 0);
+    }
+
+    private static void oneThenTheOther() {
+        CHECKS.sentence("3 x is done, then y: its VALUE.");
+        Builder b = new Builder();
+        int one = b.tell(b.whole(1));
+        int two = b.tell(b.whole(2));
+        CHECKS.due("3", b.wholeOf(b.then(one, two)), 2);
+        CHECKS.due("x is done", b.work.out(0), 1);
+        CHECKS.due("then y", b.work.out(1), 2);
+        CHECKS.due("3 of one and the same", b.wholeOf(b.then(one, one)), 1);
+        CHECKS.due("it is done twice", b.work.count(1), 2);
+        CHECKS.due("y may give NOTHING", b.work.run(b.then(one, b.nothing()), 9), Builder.NOTHING);
+    }
+
+    private static void keeping() {
+        CHECKS.sentence("4 x is done, SLOT b gets its VALUE, then z is done: its VALUE (x is a, z is c).");
+        Builder b = new Builder();
+        int five = b.whole(5);
+        int kept = b.slot(0);
+        CHECKS.due("SLOT 0", b.wholeOf(b.keep(five, 0, kept)), 5);
+        CHECKS.due("SLOT 7", b.wholeOf(b.keep(five, 7, b.slot(7))), 5);
+        CHECKS.due("another SLOT", b.work.run(b.keep(five, 1, b.slot(2)), 9), Builder.NOTHING);
+        int more = b.keep(b.plus(kept, five), 0, kept);
+        CHECKS.due("x sees what it held before", b.wholeOf(b.keep(five, 0, more)), 10);
+        CHECKS.due("NOTHING is kept, too", b.work.run(b.keep(five, 0, b.keep(b.nothing(), 0, kept)), 9), Builder.NOTHING);
+    }
+
+    private static void sums() {
+        CHECKS.sentence("5 x + y.");
+        int[][] all = {{7, 2, 9}, {-7, 2, -5}, {0, 0, 0}, {MAX, 0, MAX}, {MIN, 0, MIN}, {MAX, MIN, -1}, {MAX, -1, MAX - 1}};
+        for (int[] sum : all) {
+            Builder b = new Builder();
+            CHECKS.due(sum[0] + " + " + sum[1], b.wholeOf(b.plus(b.whole(sum[0]), b.whole(sum[1]))), sum[2]);
+        }
+    }
+
+    private static void products() {
+        CHECKS.sentence("6 x * y.");
+        int[][] all = {{7, 2, 14}, {-7, 2, -14}, {0, MIN, 0}, {MAX, 1, MAX}, {MIN, 1, MIN}, {46340, 46340, 2147395600}};
+        for (int[] product : all) {
+            Builder b = new Builder();
+            CHECKS.due(product[0] + " * " + product[1],
+                    b.wholeOf(b.times(b.whole(product[0]), b.whole(product[1]))), product[2]);
+        }
+    }
+
+    private static void quotients() {
+        CHECKS.sentence("7 x / y, cut toward 0.");
+        int[][] all = {{7, 2, 3}, {-7, 2, -3}, {7, -2, -3}, {-7, -2, 3}, {1, 2, 0}, {-1, 2, 0}, {0, 5, 0}, {0, -5, 0},
+            {MAX, MIN, 0}, {MIN, MAX, -1}, {MIN, 1, MIN}, {MAX, -1, -MAX}, {MIN, MIN, 1}};
+        for (int[] quotient : all) {
+            Builder b = new Builder();
+            CHECKS.due(quotient[0] + " / " + quotient[1],
+                    b.wholeOf(b.divided(b.whole(quotient[0]), b.whole(quotient[1]))), quotient[2]);
+        }
+    }
+
+    private static void wrapping() {
+        CHECKS.sentence("WHOLES (32 bits, wrapping)");
+        Builder b = new Builder();
+        int max = b.whole(MAX);
+        int min = b.whole(MIN);
+        int one = b.whole(1);
+        int minus = b.whole(-1);
+        CHECKS.due("MAX + 1", b.wholeOf(b.plus(max, one)), MIN);
+        CHECKS.due("MIN + -1", b.wholeOf(b.plus(min, minus)), MAX);
+        CHECKS.due("MIN + MIN", b.wholeOf(b.plus(min, min)), 0);
+        CHECKS.due("MAX + MAX", b.wholeOf(b.plus(max, max)), -2);
+        CHECKS.due("MAX * MAX", b.wholeOf(b.times(max, max)), 1);
+        CHECKS.due("MIN * -1", b.wholeOf(b.times(min, minus)), MIN);
+        CHECKS.due("65536 * 65536", b.wholeOf(b.times(b.whole(65536), b.whole(65536))), 0);
+        CHECKS.due("MIN / -1", b.wholeOf(b.divided(min, minus)), MIN);
+        CHECKS.due("what wrapped is the same as the WHOLE", b.wholeOf(b.alike(b.plus(max, one), min)), 1);
+        CHECKS.due("what wrapped below 0 is alike", b.wholeOf(b.alike(b.plus(max, max), b.whole(-2))), 1);
+    }
+
+    private static void below() {
+        CHECKS.sentence("8 1 if x is below y, else 0: both WHOLES.");
+        int[][] all = {{1, 2, 1}, {2, 1, 0}, {2, 2, 0}, {-1, 0, 1}, {0, -1, 0}, {MIN, MAX, 1}, {MAX, MIN, 0},
+            {MIN, MIN, 0}, {MAX, MAX, 0}, {MIN, MIN + 1, 1}, {MAX - 1, MAX, 1}, {-2, 1, 1}};
+        for (int[] pair : all) {
+            Builder b = new Builder();
+            CHECKS.due(pair[0] + " below " + pair[1], b.wholeOf(b.below(b.whole(pair[0]), b.whole(pair[1]))), pair[2]);
+        }
     }
 
     private static void sameness() {
+        CHECKS.sentence("9 1 if x and y are the same (WHOLES alike; NOTHING; one and the same), else 0.");
         Builder b = new Builder();
         int none = b.nothing();
         int zero = b.whole(0);
-        CHECKS.due("NOTHING", b.wholeOf(b.alike(none, none)), 1);
+        CHECKS.due("NOTHING", b.wholeOf(b.alike(none, b.nothing())), 1);
         CHECKS.due("NOTHING and 0", b.wholeOf(b.alike(none, zero)), 0);
+        CHECKS.due("0 and NOTHING", b.wholeOf(b.alike(zero, none)), 0);
         CHECKS.due("WHOLES alike", b.wholeOf(b.alike(zero, b.whole(0))), 1);
         CHECKS.due("WHOLES", b.wholeOf(b.alike(zero, b.whole(1))), 0);
-        int[] makers = {b.row(zero), b.links(zero), b.markedRow(zero), b.link(zero), b.markedLink(zero), b.later(zero)};
-        int kept = b.slot(0);
-        int same = b.alike(kept, kept);
-        for (int maker : makers) {
-            CHECKS.due("two new ones", b.wholeOf(b.alike(maker, maker)), 0);
-            CHECKS.due("one and the same", b.wholeOf(b.keep(maker, 0, same)), 1);
+        CHECKS.due("far WHOLES alike", b.wholeOf(b.alike(b.whole(MIN), b.whole(MIN))), 1);
+        CHECKS.due("far WHOLES", b.wholeOf(b.alike(b.whole(MIN), b.whole(MAX))), 0);
+        Builder t = new Builder();
+        int kept = t.slot(0);
+        int same = t.alike(kept, kept);
+        for (int maker : t.oneOfEachSort(t.whole(0))) {
+            if (t.work.run(maker, 9) > Builder.NOTHING) {
+                CHECKS.due("two new ones", t.wholeOf(t.alike(maker, maker)), 0);
+                CHECKS.due("a new one and NOTHING", t.wholeOf(t.alike(maker, t.nothing())), 0);
+                CHECKS.due("one and the same", t.wholeOf(t.keep(maker, 0, same)), 1);
+            }
         }
     }
 
     private static void newRows() {
-        for (int length : new int[] {0, 1, 16}) {
+        CHECKS.sentence("10 a new ROW of x places, 0s.");
+        for (int length = 0; length <= 16; length++) {
             Builder b = new Builder();
-            int n = b.whole(length);
-            int[] rows = {b.row(n), b.links(n), b.markedRow(n)};
-            for (int i = 0; i < 3; i++) {
-                String what = "sort " + (2 + i) + " of " + length;
-                CHECKS.due(what, b.work.run(rows[i], 2), 2 + i);
-                CHECKS.due(what + " gave()", b.work.gave(), length);
-                CHECKS.duePlace(what, b.work, -1, "throws");
-                CHECKS.duePlace(what, b.work, MIN, "throws");
-                CHECKS.duePlace(what, b.work, MAX, "throws");
-                CHECKS.duePlace(what, b.work, length, "throws");
-                for (int at = 0; at < length; at++) {
-                    CHECKS.duePlace(what, b.work, at, "0");
-                }
-            }
+            CHECKS.due("of " + length, b.work.run(b.row(b.whole(length)), 2), Builder.ROW);
+            CHECKS.duePlaces("of " + length, b.work, new int[length]);
         }
-        for (int length : new int[] {-1, MIN, 17, MAX}) {
+        Builder b = new Builder();
+        CHECKS.due("its place is a WHOLE", b.work.run(b.read(b.row(b.whole(1)), b.whole(0)), 9), Builder.WHOLE);
+        int row = b.row(b.whole(2));
+        b.work.run(b.keep(row, 0, b.then(b.write(b.slot(0), b.whole(1), b.whole(9)), row)), 50);
+        CHECKS.duePlaces("each is a new one", b.work, 0, 0);
+    }
+
+    private static void newLinks() {
+        CHECKS.sentence("11 new LINKS, 12 a new MARKED ROW of x places, NOTHING.");
+        for (int length = 0; length <= 16; length++) {
             Builder b = new Builder();
             int n = b.whole(length);
-            int due = length < 0 ? Builder.SIZE : Builder.LONG;
-            fails("10 of " + length, b, b.row(n), due);
-            CHECKS.due("FAILURES", b.work.ended(4), length < 0 ? 1 : 0);
-            CHECKS.due("gave()", b.work.gave(), 0);
-            CHECKS.duePlace("none", b.work, 3, "0");
-            fails("11 of " + length, b, b.links(n), due);
-            fails("12 of " + length, b, b.markedRow(n), due);
+            CHECKS.due("LINKS of " + length, b.work.run(b.links(n), 2), Builder.LINKS);
+            CHECKS.duePlaces("LINKS of " + length, b.work, new int[length]);
+            CHECKS.due("MARKED ROW of " + length, b.work.run(b.markedRow(n), 2), Builder.MARKED_ROW);
+            CHECKS.duePlaces("MARKED ROW of " + length, b.work, new int[length]);
+        }
+        Builder b = new Builder();
+        int one = b.whole(1);
+        int zero = b.whole(0);
+        CHECKS.due("a place of LINKS", b.work.run(b.read(b.links(one), zero), 9), Builder.NOTHING);
+        CHECKS.due("a place of a MARKED ROW", b.work.run(b.read(b.markedRow(one), zero), 9), Builder.NOTHING);
+    }
+
+    private static void linksThatHold() {
+        CHECKS.sentence("13 a new LINK, 14 a new MARKED LINK that holds x.");
+        Builder b = new Builder();
+        int[] things = b.oneOfEachSort(b.whole(3));
+        for (int sort = 0; sort < 8; sort++) {
+            int link = b.link(things[sort]);
+            int marked = b.markedLink(things[sort]);
+            CHECKS.due("13", b.work.run(link, 20), Builder.LINK);
+            CHECKS.due("13 gave", b.work.gave(), 0);
+            CHECKS.due("13 holds " + sort, b.work.run(b.held(link), 20), sort);
+            CHECKS.due("14", b.work.run(marked, 20), Builder.MARKED_LINK);
+            CHECKS.due("14 gave", b.work.gave(), 0);
+            CHECKS.due("14 holds " + sort, b.work.run(b.held(marked), 20), sort);
         }
     }
 
     private static void reading() {
-        Builder b = new Builder();
-        int zero = b.whole(0);
-        int two = b.whole(2);
-        int none = b.nothing();
-        int link = b.link(zero);
-        int row = b.row(two);
-        int links = b.links(two);
-        CHECKS.due("a new place", b.wholeOf(b.read(row, b.whole(1))), 0);
-        CHECKS.due("a new place of LINKS", b.work.run(b.read(links, zero), 9), Builder.NOTHING);
-        fails("beyond", b, b.read(row, two), Builder.INDEX);
-        fails("below", b, b.read(links, b.whole(-1)), Builder.INDEX);
-        fails("far below", b, b.read(b.markedRow(two), b.whole(MIN)), Builder.INDEX);
-        fails("far beyond", b, b.read(row, b.whole(MAX)), Builder.INDEX);
-        fails("of NOTHING", b, b.read(none, two), Builder.NULL);
-        fails("of a WHOLE", b, b.read(two, two), Builder.CAST);
-        fails("of a LINK", b, b.read(link, two), Builder.CAST);
-        fails("of a LATER", b, b.read(b.later(row), zero), Builder.CAST);
-        fails("y ahead of x: NULL", b, b.read(two, none), Builder.NULL);
-        fails("y ahead of x: CAST", b, b.read(none, link), Builder.CAST);
+        CHECKS.sentence("15 place y of x.");
+        for (int length : new int[] {1, 2, 16}) {
+            for (int at = 0; at < length; at++) {
+                Builder b = new Builder();
+                int kept = b.slot(0);
+                int fill = b.write(kept, b.whole(at), b.whole(70 + at));
+                int row = b.row(b.whole(length));
+                CHECKS.due("place " + at + " of " + length,
+                        b.wholeOf(b.keep(row, 0, b.then(fill, b.read(kept, b.whole(at))))), 70 + at);
+                int other = (at + 1) % length;
+                CHECKS.due("place " + other + " of " + length,
+                        b.wholeOf(b.keep(row, 0, b.then(fill, b.read(kept, b.whole(other))))), other == at ? 70 + at : 0);
+            }
+        }
     }
 
     private static void writing() {
+        CHECKS.sentence("16 place y of x becomes z; z.");
+        Builder b = new Builder();
+        int zero = b.whole(0);
+        int three = b.whole(3);
+        int last = b.whole(2);
+        int row = b.row(three);
+        int kept = b.slot(0);
+        CHECKS.due("it gives z", b.wholeOf(b.write(row, last, b.whole(MIN))), MIN);
+        b.work.run(b.keep(row, 0, b.then(b.write(kept, zero, b.whole(MAX)), kept)), 50);
+        CHECKS.duePlaces("the first", b.work, MAX, 0, 0);
+        b.work.run(b.keep(row, 0, b.then(b.write(kept, last, b.whole(-1)), kept)), 50);
+        CHECKS.duePlaces("the last", b.work, 0, 0, -1);
+        int twice = b.all(b.write(kept, last, three), b.write(kept, last, last), kept);
+        b.work.run(b.keep(row, 0, twice), 50);
+        CHECKS.duePlaces("twice", b.work, 0, 0, 2);
+        int beside = b.keep(row, 1, b.then(b.write(kept, last, three), b.slot(1)));
+        b.work.run(b.keep(row, 0, beside), 50);
+        CHECKS.duePlaces("another ROW", b.work, 0, 0, 0);
+    }
+
+    private static void placesForLinks() {
+        CHECKS.sentence("LINKS (rows of places for LINK and MARKED LINK)");
         Builder b = new Builder();
         int zero = b.whole(0);
         int one = b.whole(1);
-        int two = b.whole(2);
-        int none = b.nothing();
-        int link = b.link(zero);
-        int marked = b.markedLink(zero);
-        int row = b.row(two);
-        int links = b.links(two);
-        int markedRow = b.markedRow(two);
         int kept = b.slot(0);
-
-        CHECKS.due("16 gives z", b.wholeOf(b.write(row, one, b.whole(44))), 44);
-        CHECKS.due("it is written", b.work.run(b.keep(row, 0, b.then(b.write(kept, one, b.whole(-9)), kept)), 20), 2);
-        CHECKS.duePlace("written", b.work, 0, "0");
-        CHECKS.duePlace("written", b.work, 1, "-9");
-        int both = b.all(b.write(kept, zero, marked), b.write(kept, one, link), kept);
-        CHECKS.due("LINKS", b.work.run(b.keep(links, 0, both), 20), 3);
-        CHECKS.duePlace("LINKS", b.work, 0, "2");
-        CHECKS.duePlace("LINKS", b.work, 1, "1");
-        int emptied = b.all(b.write(kept, zero, marked), b.write(kept, one, marked), b.write(kept, zero, none), kept);
-        CHECKS.due("MARKED ROW", b.work.run(b.keep(markedRow, 0, emptied), 50), 4);
-        CHECKS.duePlace("MARKED ROW", b.work, 0, "0");
-        CHECKS.duePlace("MARKED ROW", b.work, 1, "2");
-        CHECKS.due("gives NOTHING", b.work.run(b.write(links, one, none), 20), Builder.NOTHING);
-        CHECKS.due("gives a MARKED LINK", b.work.run(b.write(links, one, marked), 20), Builder.MARKED_LINK);
-
-        Builder f = new Builder();
-        zero = f.whole(0);
-        two = f.whole(2);
-        none = f.nothing();
-        link = f.link(zero);
-        marked = f.markedLink(zero);
-        row = f.row(two);
-        links = f.links(two);
-        markedRow = f.markedRow(two);
-        fails("y first", f, f.write(zero, none, link), Builder.NULL);
-        fails("y first: CAST", f, f.write(none, link, none), Builder.CAST);
-        fails("z no LINK", f, f.write(links, two, zero), Builder.CAST);
-        fails("z a ROW", f, f.write(markedRow, two, row), Builder.CAST);
-        fails("z no WHOLE: NOTHING", f, f.write(row, two, none), Builder.NULL);
-        fails("z no WHOLE: a LINK", f, f.write(row, two, link), Builder.CAST);
-        fails("z ahead of x: NULL", f, f.write(zero, two, none), Builder.NULL);
-        fails("z ahead of x: CAST", f, f.write(none, two, link), Builder.CAST);
-        fails("x a WHOLE", f, f.write(two, two, two), Builder.CAST);
-        fails("x a LINK", f, f.write(link, two, two), Builder.CAST);
-        fails("x NOTHING", f, f.write(none, two, two), Builder.NULL);
-        fails("INDEX of a ROW", f, f.write(row, two, two), Builder.INDEX);
-        fails("INDEX below", f, f.write(row, f.whole(-1), two), Builder.INDEX);
-        fails("INDEX ahead of STORE", f, f.write(markedRow, two, link), Builder.INDEX);
-        fails("STORE", f, f.write(markedRow, zero, link), Builder.STORE);
-        fails("LINKS take it", f, f.write(links, zero, link), 0);
-        fails("MARKED", f, f.write(markedRow, zero, marked), 0);
+        int links = b.links(b.whole(3));
+        int both = b.all(b.write(kept, zero, b.markedLink(zero)), b.write(kept, one, b.link(zero)), kept);
+        CHECKS.due("run", b.work.run(b.keep(links, 0, both), 50), Builder.LINKS);
+        CHECKS.duePlaces("both", b.work, 2, 1, 0);
+        int emptied = b.all(both, b.write(kept, one, b.nothing()), kept);
+        b.work.run(b.keep(links, 0, emptied), 50);
+        CHECKS.duePlaces("NOTHING comes back", b.work, 2, 0, 0);
+        CHECKS.due("16 gives a LINK", b.work.run(b.write(links, one, b.link(zero)), 20), Builder.LINK);
+        CHECKS.due("16 gives NOTHING", b.work.run(b.write(links, one, b.nothing()), 20), Builder.NOTHING);
+        int twice = b.then(both, b.alike(b.read(kept, one), b.read(kept, one)));
+        CHECKS.due("it is one and the same LINK", b.wholeOf(b.keep(links, 0, twice)), 1);
     }
 
-    private static void linksHold() {
+    private static void placesForMarkedLinks() {
+        CHECKS.sentence("MARKED ROWS (for MARKED LINKS alone)");
+        Builder b = new Builder();
+        int zero = b.whole(0);
+        int one = b.whole(1);
+        int kept = b.slot(0);
+        int row = b.markedRow(b.whole(2));
+        int marked = b.write(kept, zero, b.markedLink(zero));
+        CHECKS.due("run", b.work.run(b.keep(row, 0, b.then(marked, kept)), 50), Builder.MARKED_ROW);
+        CHECKS.duePlaces("a MARKED LINK", b.work, 2, 0);
+        b.work.run(b.keep(row, 0, b.all(marked, b.write(kept, zero, b.nothing()), kept)), 50);
+        CHECKS.duePlaces("NOTHING comes back", b.work, 0, 0);
+        int refused = b.caught(b.write(kept, one, b.link(zero)), Builder.STORE, kept);
+        b.work.run(b.keep(row, 0, b.then(marked, refused)), 50);
+        CHECKS.duePlaces("no LINK that is not MARKED", b.work, 2, 0);
+        CHECKS.due("it FAILED", b.work.ended(4), 1);
+    }
+
+    private static void markedLinksAreLinks() {
+        CHECKS.sentence("a MARKED LINK (which is a LINK, too)");
+        Builder b = new Builder();
+        int zero = b.whole(0);
+        int five = b.whole(5);
+        int kept = b.slot(0);
+        int marked = b.markedLink(five);
+        CHECKS.due("17", b.wholeOf(b.held(marked)), 5);
+        CHECKS.due("18", b.wholeOf(b.keep(marked, 0, b.then(b.hold(kept, zero), b.held(kept)))), 0);
+        CHECKS.due("16 of LINKS", b.work.run(b.write(b.links(five), zero, marked), 20), Builder.MARKED_LINK);
+        CHECKS.due("its sort is its own", b.work.run(marked, 20), Builder.MARKED_LINK);
+    }
+
+    private static void holding() {
+        CHECKS.sentence("17 what LINK x holds. 18 LINK x holds y; y.");
         Builder b = new Builder();
         int three = b.whole(3);
-        int none = b.nothing();
         int kept = b.slot(0);
-        int[] things = {three, none, b.row(three), b.links(three), b.markedRow(three), b.link(three),
-            b.markedLink(three), b.later(three)};
+        int[] things = b.oneOfEachSort(three);
         for (int sort = 0; sort < 8; sort++) {
-            CHECKS.due("13 holds " + sort, b.work.run(b.held(b.link(things[sort])), 20), sort);
-            CHECKS.due("18 gives " + sort, b.work.run(b.hold(b.markedLink(none), things[sort]), 20), sort);
+            int hold = b.hold(kept, things[sort]);
+            CHECKS.due("18 gives " + sort, b.work.run(b.keep(things[5], 0, hold), 20), sort);
+            CHECKS.due("17 of it", b.work.run(b.keep(things[5], 0, b.then(hold, b.held(kept))), 20), sort);
         }
-        CHECKS.due("13", b.work.run(things[5], 20), Builder.LINK);
-        CHECKS.due("13 gave()", b.work.gave(), 0);
-        CHECKS.duePlace("a LINK", b.work, 0, "0");
-        CHECKS.due("14", b.work.run(things[6], 20), Builder.MARKED_LINK);
-        CHECKS.due("18 holds", b.wholeOf(b.keep(things[6], 0, b.then(b.hold(kept, b.whole(8)), b.held(kept)))), 8);
         CHECKS.due("a LINK holds itself",
                 b.wholeOf(b.keep(things[5], 0, b.then(b.hold(kept, kept), b.alike(kept, b.held(kept))))), 1);
+    }
 
-        Builder f = new Builder();
-        three = f.whole(3);
-        none = f.nothing();
-        fails("17 of NOTHING", f, f.held(none), Builder.NULL);
-        fails("17 of a WHOLE", f, f.held(three), Builder.CAST);
-        fails("17 of LINKS", f, f.held(f.links(three)), Builder.CAST);
-        fails("18 of NOTHING", f, f.hold(none, three), Builder.NULL);
-        fails("18 of a ROW", f, f.hold(f.row(three), none), Builder.CAST);
+    /** SLOT 0: a ROW of 10, 11, 12; SLOT 1: a ROW of so many places, all -1; then the ACT. */
+    private static int twoRows(Builder b, int length, int then) {
+        int from = b.slot(0);
+        int to = b.slot(1);
+        int all = then;
+        for (int i = length - 1; i >= 0; i--) {
+            all = b.then(b.write(to, b.whole(i), b.whole(-1)), all);
+        }
+        for (int i = 2; i >= 0; i--) {
+            all = b.then(b.write(from, b.whole(i), b.whole(10 + i)), all);
+        }
+        return b.keep(b.row(b.whole(3)), 0, b.keep(b.row(b.whole(length)), 1, all));
     }
 
     private static void copying() {
+        CHECKS.sentence("19 the first z places of x are copied to the first ones of y; z.");
+        copied("2 of 3 to 2", 2, 1, 1, 10, 11);
+        copied("2 of 3 to 3", 2, 1, 1, 10, 11, -1);
+        copied("2 of 3 to 4", 2, 1, 1, 10, 11, -1, -1);
+        copied("1 of 3 to 1", 1, 1, 1, 10);
+        copied("x is left", 2, 1, 0, 10, 11, 12);
+        copied("onto itself", 3, 0, 0, 10, 11, 12);
         Builder b = new Builder();
-        int zero = b.whole(0);
-        int one = b.whole(1);
-        int three = b.whole(3);
-        int from = b.slot(0);
-        int to = b.slot(1);
-        int two = b.whole(2);
-        int filled = b.all(b.write(from, zero, b.whole(10)), b.write(from, one, b.whole(11)),
-                b.write(from, two, b.whole(12)), b.write(to, two, b.whole(5)), b.copy(from, to, two), to);
-        CHECKS.due("19", b.work.run(b.keep(b.row(three), 0, b.keep(b.row(three), 1, filled)), 200), 2);
-        CHECKS.duePlace("19", b.work, 0, "10");
-        CHECKS.duePlace("19", b.work, 1, "11");
-        CHECKS.duePlace("19", b.work, 2, "5");
-        CHECKS.due("19 gives z", b.wholeOf(b.copy(b.row(three), b.row(two), two)), 2);
-        CHECKS.due("onto itself", b.wholeOf(b.keep(b.row(three), 0, b.copy(from, from, three))), 3);
-        CHECKS.due("none", b.wholeOf(b.copy(b.links(zero), b.markedRow(zero), zero)), 0);
-        int partly = b.all(b.write(from, zero, b.markedLink(zero)), b.write(from, one, b.link(zero)),
-                b.write(from, two, b.markedLink(zero)), b.caught(b.copy(from, to, three), Builder.STORE, to));
-        CHECKS.due("partly", b.work.run(b.keep(b.links(three), 0, b.keep(b.markedRow(three), 1, partly)), 200), 4);
-        CHECKS.duePlace("copied ahead of it", b.work, 0, "2");
-        CHECKS.duePlace("the LINK that is not MARKED", b.work, 1, "0");
-        CHECKS.duePlace("behind it", b.work, 2, "0");
-        CHECKS.due("one FAILURE", b.work.ended(4), 1);
-
-        Builder f = new Builder();
-        two = f.whole(2);
-        three = f.whole(3);
-        int none = f.nothing();
-        int row = f.row(two);
-        int links = f.links(two);
-        int link = f.link(two);
-        fails("z first: NULL", f, f.copy(two, two, none), Builder.NULL);
-        fails("z first: CAST", f, f.copy(none, none, link), Builder.CAST);
-        fails("x NOTHING", f, f.copy(none, row, three), Builder.NULL);
-        fails("y NOTHING", f, f.copy(row, none, three), Builder.NULL);
-        fails("NULL ahead of STORE", f, f.copy(two, none, three), Builder.NULL);
-        fails("x no row", f, f.copy(two, row, three), Builder.STORE);
-        fails("y no row", f, f.copy(row, link, three), Builder.STORE);
-        fails("WHOLES to LINKS", f, f.copy(row, links, three), Builder.STORE);
-        fails("LINKS to WHOLES", f, f.copy(f.markedRow(two), row, two), Builder.STORE);
-        fails("below 0", f, f.copy(row, row, f.whole(-1)), Builder.INDEX);
-        fails("beyond x", f, f.copy(row, f.row(three), three), Builder.INDEX);
-        fails("beyond y", f, f.copy(f.row(three), row, three), Builder.INDEX);
-        fails("LINKS of NOTHING to a MARKED ROW", f, f.copy(links, f.markedRow(two), two), 0);
+        CHECKS.due("it gives z", b.wholeOf(b.copy(b.row(b.whole(3)), b.row(b.whole(2)), b.whole(2))), 2);
     }
 
-    private static void answersOfTheRun() {
+    /** Copies so many places of SLOT 0 to those of another SLOT: then these are the places of the SLOT that is shown. */
+    private static void copied(String what, int many, int to, int shown, int... due) {
         Builder b = new Builder();
-        int three = b.whole(3);
-        int[] things = {three, b.nothing(), b.row(three), b.links(three), b.markedRow(three), b.link(three),
-            b.markedLink(three), b.later(three)};
-        for (int sort = 0; sort < 8; sort++) {
-            CHECKS.due("sort", b.work.run(things[sort], 20), sort);
-            CHECKS.due("gave", b.work.gave(), sort == 0 || (sort >= 2 && sort <= 4) ? 3 : 0);
-            CHECKS.due("ended(0)", b.work.ended(0), 0);
-        }
-        int runs = b.work.count(2);
-        CHECKS.due("no such ACT", b.work.run(b.work.count(0), 20), SideWork.UNKNOWN);
-        CHECKS.due("ACT -1", b.work.run(-1, 20), SideWork.UNKNOWN);
-        for (int steps : new int[] {0, -1, 201, MIN, MAX}) {
-            CHECKS.due("STEPS " + steps, b.work.run(0, steps), SideWork.OUTSIDE);
-        }
-        CHECKS.due("RUNS", b.work.count(2), runs);
-        CHECKS.due("1 STEP", b.work.run(0, 1), 0);
-        CHECKS.due("200 STEPS", b.work.run(0, 200), 0);
+        int copy = b.copy(b.slot(0), b.slot(to), b.whole(many));
+        b.work.run(twoRows(b, shown == 1 ? due.length : 2, b.then(copy, b.slot(shown))), 200);
+        CHECKS.duePlaces(what, b.work, due);
+    }
+
+    private static void copyingNone() {
+        CHECKS.sentence("the first z places of x (here none)");
+        copied("0 of 3 to 2", 0, 1, 1, -1, -1);
+        Builder b = new Builder();
+        int zero = b.whole(0);
+        CHECKS.due("it gives 0", b.wholeOf(b.copy(b.row(b.whole(3)), b.row(b.whole(2)), zero)), 0);
+        CHECKS.due("of ROWS without places", b.wholeOf(b.copy(b.row(zero), b.row(zero), zero)), 0);
+        CHECKS.due("of LINKS without places", b.wholeOf(b.copy(b.links(zero), b.markedRow(zero), zero)), 0);
+    }
+
+    private static void copyingAll() {
+        CHECKS.sentence("the first z places of x (here all)");
+        copied("3 of 3 to 3", 3, 1, 1, 10, 11, 12);
+        Builder s = new Builder();
+        int sixteen = s.whole(16);
+        int kept = s.slot(0);
+        int fill = s.all(s.write(kept, s.whole(0), sixteen), s.write(kept, s.whole(15), s.whole(9)));
+        int to = s.slot(1);
+        s.work.run(s.keep(s.row(sixteen), 0, s.keep(s.row(sixteen), 1, s.all(fill, s.copy(kept, to, sixteen), to))), 200);
+        CHECKS.due("16 of 16: gave", s.work.gave(), 16);
+        CHECKS.duePlace("the first", s.work, 0, "16");
+        CHECKS.duePlace("between", s.work, 7, "0");
+        CHECKS.duePlace("the last", s.work, 15, "9");
     }
 }

@@ -1,3 +1,5 @@
+import java.util.ArrayList;
+import java.util.List;
 import java.util.Random;
 import java.util.TreeMap;
 
@@ -16,8 +18,10 @@ public final class ModelTest {
 
     private final Random random;
     private final String name;
-    private final SideWork work = new SideWork();
-    private final Model model = new Model();
+    /** KIND, a, b, c of each ACT that was tried, so that new objects can have them, too. */
+    private final List<int[]> tried = new ArrayList<>();
+    private SideWork work = new SideWork();
+    private Model model = new Model();
 
     private ModelTest(int seed) {
         random = new Random(seed);
@@ -29,7 +33,8 @@ public final class ModelTest {
             ModelTest test = new ModelTest(seed);
             test.build(3 + test.random.nextInt(60));
             test.runAll();
-            if (seed % 50 == 0) {
+            for (int i = 0; i < 10 && seed % 50 == 0; i++) {
+                test.renew();
                 test.strayCalls();
             }
         }
@@ -120,6 +125,7 @@ public final class ModelTest {
     }
 
     private void plainAct(int kind, int a, int b, int c) {
+        tried.add(new int[] {kind, a, b, c});
         due("act(" + kind + ", " + a + ", " + b + ", " + c + ")", work.act(kind, a, b, c), model.act(kind, a, b, c));
     }
 
@@ -147,8 +153,21 @@ public final class ModelTest {
         return random.nextInt(3) == 0 ? random.nextInt(size) : size - 1 - random.nextInt(Math.min(size, 8));
     }
 
+    /** New objects with the same ACTS, as none is used for more than 512 calls. */
+    private void renew() {
+        work = new SideWork();
+        model = new Model();
+        for (int[] given : tried) {
+            due("act again", work.act(given[0], given[1], given[2], given[3]),
+                    model.act(given[0], given[1], given[2], given[3]));
+        }
+    }
+
     private void runAll() {
         for (int i = 0; i < 25; i++) {
+            if (i % 4 == 0) {
+                renew();
+            }
             int size = model.count(0);
             int act = i < 10 && i < size ? size - 1 - i : random.nextInt(size);
             int steps = random.nextInt(3) == 0 ? 1 + random.nextInt(200) : 200;
@@ -190,7 +209,7 @@ public final class ModelTest {
     }
 
     private void strayCalls() {
-        for (int i = 0; i < 3000; i++) {
+        for (int i = 0; i < 300; i++) {
             int p = stray(), q = stray(), r = stray(), s = stray();
             switch (random.nextInt(12)) {
                 case 0: due("act", work.act(p, q, r, s), model.act(p, q, r, s)); break;
